@@ -1654,6 +1654,8 @@ public final class MatroidDesk {
         private int guestStamp;
         private int guestBases;
         private boolean found;
+        private int keptSet;
+        private int lost;
         private int contractedSet;
         private int deletedSet;
         private int taken;
@@ -1691,11 +1693,21 @@ public final class MatroidDesk {
             for (int i = orders.start(host.size, guest.size); i < end && !found; i++) {
                 found = findsOn(orders.set(host.size, i));
             }
+            if (found) {
+                numberImages();
+            }
             return found;
         }
 
         int imageOf(int e) {
             return images[e];
+        }
+
+        // Until here images are told by their places in what is kept.
+        private void numberImages() {
+            for (int e = 0; e < guest.size; e++) {
+                images[e] = Integer.bitCount(keptSets[1 << images[e]] - 1);
+            }
         }
 
         private void makeRoom() {
@@ -1711,9 +1723,12 @@ public final class MatroidDesk {
 
         private void countGuestBases() {
             Arrays.fill(guestPairs, 0);
-            guestBases = guest.howMany(BASES);
-            for (int i = 0; i < guestBases; i++) {
-                countPairs(guestPairs, guest.lists[BASES][i]);
+            guestBases = 0;
+            for (int set = 0; set <= guest.all(); set++) {
+                if (guest.signs[set] != 0) {
+                    guestBases++;
+                    countPairs(guestPairs, set);
+                }
             }
         }
 
@@ -1728,22 +1743,20 @@ public final class MatroidDesk {
 
         // Only an independent set is worth contracting: of another one that is less makes the same.
         private boolean findsOn(int kept) {
-            int rest = host.all() & ~kept;
             int others = host.size - guest.size;
+            keptSet = kept;
             spread(keptSets, kept);
-            spread(restSets, rest);
+            spread(restSets, host.all() & ~kept);
             int least = Math.max(0, host.ranks[kept] - guest.rank);
             int most = Math.min(others, host.rank - guest.rank);
             int end = orders.start(others, most + 1);
             for (int i = orders.start(others, least); i < end; i++) {
-                int away = restSets[orders.set(others, i)];
-                int many = host.ranks[away];
-                boolean independent = many == Integer.bitCount(away);
-                boolean ranksFit = independent && host.ranks[kept | away] == guest.rank + many;
-                if (ranksFit && sameBases(away, many) && sameDegrees() && assigns(0, many)) {
-                    contractedSet = away;
-                    deletedSet = rest & ~away;
-                    nameImages(kept);
+                contractedSet = restSets[orders.set(others, i)];
+                lost = Integer.bitCount(contractedSet);
+                boolean independent = host.ranks[contractedSet] == lost;
+                boolean ranksFit = independent && host.ranks[kept | contractedSet] == guest.rank + lost;
+                if (ranksFit && sameBases() && sameDegrees() && assigns(0)) {
+                    deletedSet = host.all() & ~kept & ~contractedSet;
                     return true;
                 }
             }
@@ -1764,47 +1777,52 @@ public final class MatroidDesk {
             }
         }
 
-        // Whether there are as many bases; counts their pairs, and makes ready for images.
-        private boolean sameBases(int away, int many) {
+        private boolean sameBases() {
             int end = orders.start(guest.size, guest.rank + 1);
             int bases = 0;
-            taken = 0;
-            imageSets[0] = away;
-            Arrays.fill(hostPairs, 0);
-            for (int i = orders.start(guest.size, guest.rank); i < end; i++) {
-                int set = orders.set(guest.size, i);
-                if (host.ranks[keptSets[set] | away] == guest.rank + many) {
-                    bases++;
-                    countPairs(hostPairs, set);
-                }
+            for (int i = orders.start(guest.size, guest.rank); i < end && bases <= guestBases; i++) {
+                bases += isHostBasis(orders.set(guest.size, i)) ? 1 : 0;
             }
             return bases == guestBases;
         }
 
+        private boolean isHostBasis(int set) {
+            return host.ranks[keptSets[set] | contractedSet] == guest.rank + lost;
+        }
+
+        // In as many bases each; counts the pairs, and makes ready for images.
         private boolean sameDegrees() {
+            taken = 0;
+            imageSets[0] = contractedSet;
+            Arrays.fill(hostPairs, 0);
+            int end = orders.start(guest.size, guest.rank + 1);
+            for (int i = orders.start(guest.size, guest.rank); i < end; i++) {
+                int set = orders.set(guest.size, i);
+                if (isHostBasis(set)) {
+                    countPairs(hostPairs, set);
+                }
+            }
             int step = MOST_ELEMENTS + 1;
-            for (int e = 0; e < guest.size; e++) {
-                int more = 0;
+            int more = 0;
+            for (int e = 0; e < guest.size && more == 0; e++) {
                 for (int f = 0; f < guest.size; f++) {
                     more += guestPairs[f * step] == guestPairs[e * step] ? 1 : 0;
                     more -= hostPairs[f * step] == guestPairs[e * step] ? 1 : 0;
                 }
-                if (more != 0) {
-                    return false;
-                }
             }
-            return true;
+            return more == 0;
         }
 
-        private boolean assigns(int e, int many) {
+        // Images are tried as they rise, so that the first that are found come first. Deeper by one element each time.
+        private boolean assigns(int e) {
             if (e >= guest.size) {
                 return true;
             }
             for (int f = 0; f < guest.size; f++) {
-                if ((taken >> f & 1) == 0 && samePairs(e, f) && sameRanks(e, f, many)) {
+                if ((taken >> f & 1) == 0 && samePairs(e, f) && sameRanks(e, f)) {
                     images[e] = f;
                     taken |= 1 << f;
-                    if (assigns(e + 1, many)) {
+                    if (assigns(e + 1)) {
                         return true;
                     }
                     taken ^= 1 << f;
@@ -1823,30 +1841,18 @@ public final class MatroidDesk {
             return same;
         }
 
-        private boolean sameRanks(int e, int f, int many) {
+        // Sets with the new element, and what they leave over: where the rank is great only the latter tell early.
+        private boolean sameRanks(int e, int f) {
             int one = keptSets[1 << f];
-            for (int set = 0; set < 1 << e; set++) {
+            boolean same = true;
+            for (int set = 0; set < 1 << e && same; set++) {
                 int with = set | 1 << e;
-                imageSets[with] = imageSets[set] | one;
-                if (guest.ranks[with] + many != host.ranks[imageSets[with]]) {
-                    return false;
-                }
+                int image = imageSets[set] | one;
+                imageSets[with] = image;
+                same = guest.ranks[with] + lost == host.ranks[image]
+                        && guest.ranks[guest.all() ^ with] + lost == host.ranks[keptSet ^ image];
             }
-            return true;
-        }
-
-        private void nameImages(int kept) {
-            int[] numbers = imageSets;
-            int many = 0;
-            for (int e = 0; e < host.size; e++) {
-                if ((kept >> e & 1) != 0) {
-                    numbers[many] = e;
-                    many++;
-                }
-            }
-            for (int e = 0; e < guest.size; e++) {
-                images[e] = numbers[images[e]];
-            }
+            return same;
         }
     }
 
