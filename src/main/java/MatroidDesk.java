@@ -1454,8 +1454,8 @@ public final class MatroidDesk {
             for (int e = 0; e < size; e++) {
                 int one = others & 1 << e;
                 if (one != 0) {
-                    int product = signs[basis] * signs[basis ^ one ^ least];
-                    boolean above = crossesOdd(basis, one | least) ? product < 0 : product > 0;
+                    int both = signs[basis] * signs[basis ^ one ^ least];
+                    boolean above = crossesOdd(basis, one | least) ? both < 0 : both > 0;
                     negative |= above ? one : 0;
                 }
             }
