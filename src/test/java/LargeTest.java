@@ -5,7 +5,7 @@ public final class LargeTest {
     private static int wrong = 0;
 
     public static void main(String[] args) {
-        int rounds = args.length > 0 ? Integer.parseInt(args[0]) : 12;
+        int rounds = args.length > 0 ? Integer.parseInt(args[0]) : 40;
         long first = args.length > 1 ? Long.parseLong(args[1]) : 1;
         for (long seed = first; seed < first + rounds && wrong == 0; seed++) {
             round(seed);
@@ -16,16 +16,18 @@ public final class LargeTest {
     private static void round(long seed) {
         Random random = new Random(seed);
         int n = 12 - random.nextInt(3);
-        int rows = random.nextInt(3) == 0 ? n : 1 + random.nextInt(n);
+        int rows = random.nextInt(6) == 0 ? n : n - 1 - random.nextInt(n - 1);
         String field = random.nextInt(4) == 0 ? "251" : "Q";
-        int span = random.nextBoolean() ? 999 : 1 + random.nextInt(20);
+        // Rows that are multiples make determinants with great common divisors.
+        int factor = new int[] {1, 1, 2, 6, 37, 64}[random.nextInt(6)];
+        int span = random.nextInt(3) > 0 ? 999 / factor : 1 + random.nextInt(15);
         StringBuilder text = new StringBuilder("a = matrix " + field + " " + n + " {");
         for (int r = 0; r < rows; r++) {
             text.append(r == 0 ? "" : ",");
             for (int e = 0; e < n; e++) {
-                boolean extreme = span == 999 && random.nextInt(3) > 0;
-                int number = extreme ? (random.nextBoolean() ? 999 : -998) : random.nextInt(2 * span + 1) - span;
-                text.append(' ').append(number);
+                boolean extreme = random.nextInt(4) == 0;
+                int number = extreme ? (random.nextBoolean() ? span : -span) : random.nextInt(2 * span + 1) - span;
+                text.append(' ').append(factor * number);
             }
         }
         text.append("}; show a; b = dual a; show b; ");

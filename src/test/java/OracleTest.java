@@ -1,3 +1,6 @@
+import java.util.ArrayList;
+import java.util.Collections;
+import java.util.List;
 import java.util.Random;
 
 /** Random scripts, ordinary and damaged ones: every answer of the face must be the oracle's. */
@@ -21,27 +24,30 @@ public final class OracleTest {
         Oracle oracle = new Oracle();
         Desk desk = new Desk();
         StringBuilder before = new StringBuilder();
-        for (int i = 0; i < 4; i++) {
-            String script = i == 0 ? opening(random, most) : script(random, most);
-            if (i > 0 && random.nextInt(4) == 0) {
+        for (int i = 0; i < 5; i++) {
+            String script = i == 0 ? opening(random, most) : i == 4 ? closing(oracle) : script(random, most);
+            if (i > 0 && i < 4 && random.nextInt(4) == 0) {
                 script = damage(random, script);
             }
             before.append(script).append("\n----\n");
-            String where = "seed " + seed + ":\n" + before;
-            due(where, "run", desk.run(script), oracle.run(script));
-            due(where, "place", desk.one().place(), oracle.place);
-            due(where, "why", desk.one().why(), oracle.why);
-            due(where, "printed", desk.one().printed(), oracle.product.length());
-            String product = desk.product();
-            if (!product.equals(oracle.product)) {
-                wrong++;
-                System.out.println(where + "product\n" + product + "due is\n" + oracle.product);
-            }
+            compareRun("seed " + seed + ":\n" + before, desk, oracle, script);
             if (wrong > 0) {
                 return;
             }
         }
         compareCalls("seed " + seed + ":\n" + before, desk, oracle);
+    }
+
+    private static void compareRun(String where, Desk desk, Oracle oracle, String script) {
+        due(where, "run", desk.run(script), oracle.run(script));
+        due(where, "place", desk.one().place(), oracle.place);
+        due(where, "why", desk.one().why(), oracle.why);
+        due(where, "printed", desk.one().printed(), oracle.product.length());
+        String product = desk.product();
+        if (!product.equals(oracle.product)) {
+            wrong++;
+            System.out.println(where + "product\n" + product + "due is\n" + oracle.product);
+        }
     }
 
     private static void due(String where, String call, long got, long want) {
@@ -88,7 +94,7 @@ public final class OracleTest {
 
     private static void compareLists(String where, Desk desk, int m, Oracle.Mat mat) {
         for (int kind = 0; kind < 4; kind++) {
-            java.util.List<Integer> list = Oracle.list(mat, kind);
+            List<Integer> list = Oracle.list(mat, kind);
             due(where, "count " + kind, desk.one().count(m, kind), list.size());
             for (int i = 0; i < list.size(); i++) {
                 due(where, "member " + kind + " " + i, desk.one().member(m, kind, i), list.get(i));
@@ -140,8 +146,45 @@ public final class OracleTest {
     // Gives all names that are used a matroid, so that later scripts seldom stop for the want of one.
     private static String opening(Random random, int most) {
         StringBuilder text = new StringBuilder();
-        for (char name = 'a'; name <= 'f'; name++) {
+        for (char name = 'a'; name <= 'd'; name++) {
             text.append(name).append(" = ").append(random.nextInt(3) == 0 ? graph(random, most) : matrix(random, most));
+        }
+        return text.append(mixed(random, most)).toString();
+    }
+
+    // One matroid, and one with the same columns, or some of them, in another order.
+    private static String mixed(Random random, int most) {
+        int rows = 1 + random.nextInt(most / 2 + 1);
+        int prime = 2 + random.nextInt(2);
+        StringBuilder text = new StringBuilder("e = matrix " + prime + " " + most + " {");
+        List<Integer> columns = new ArrayList<>();
+        int[][] numbers = new int[rows][most];
+        for (int r = 0; r < rows; r++) {
+            text.append(r == 0 ? "" : ",");
+            for (int e = 0; e < most; e++) {
+                numbers[r][e] = random.nextInt(prime);
+                text.append(' ').append(numbers[r][e]);
+            }
+        }
+        for (int e = 0; e < most; e++) {
+            columns.add(e);
+        }
+        Collections.shuffle(columns, random);
+        int kept = most - (random.nextBoolean() ? 0 : random.nextInt(most));
+        text.append("}; f = matrix ").append(prime).append(' ').append(kept).append(" {");
+        for (int r = 0; r < rows; r++) {
+            text.append(r == 0 ? "" : ",");
+            for (int e : columns.subList(0, kept)) {
+                text.append(' ').append(numbers[r][e]);
+            }
+        }
+        return text.append("}; minor e f;").toString();
+    }
+
+    private static String closing(Oracle oracle) {
+        StringBuilder text = new StringBuilder();
+        for (char name = 'a'; name <= 'f'; name++) {
+            text.append(oracle.mats[name - 'a'] == null ? "" : "show " + name + ";");
         }
         return text.toString();
     }

@@ -28,6 +28,7 @@ public final class PromisesTest {
         sign();
         below();
         witness();
+        twelveElements();
         System.exit(wrong == 0 ? 0 : 1);
     }
 
@@ -465,5 +466,29 @@ public final class PromisesTest {
         desk.run("c=uniform 3 3;");
         due("contracted: of what is there now", desk.one().contracted(A, C), 0);
         due("deleted: of what is there now", desk.one().deleted(A, C), 63 & ~7);
+    }
+
+    // Where there are as many elements as can be, what is behind them is nowhere held.
+    private static void twelveElements() {
+        Desk desk = after("a=uniform 6 12; weights a { 1 2 3 4 5 6 7 8 9 10 11 12 };");
+        due("rank of all", desk.one().rank(A, 4095), 6);
+        due("rank of one more", desk.one().rank(A, 4096), NONE);
+        due("weight of the last", desk.one().weight(A, 11), 12);
+        due("weight of one more", desk.one().weight(A, 12), 0);
+        due("best", desk.one().best(A), 4095 - 63);
+        due("bases", desk.one().count(A, 0), 924);
+        due("the last basis", desk.one().member(A, 0, 923), 4095 - 63);
+        due("circuits", desk.one().count(A, 1), 792);
+        due("cocircuits", desk.one().count(A, 2), 792);
+        due("flats", desk.one().count(A, 3), 1 + 12 + 66 + 220 + 495 + 792 + 1);
+        due("sign", desk.one().sign(A, 4095 - 63), 1);
+        due("sign with one more", desk.one().sign(A, 4096 + 31), 2);
+        due("below", desk.one().below(A, 791), 64 * (1 + 4 + 16));
+        due("below of one more circuit", desk.one().below(A, 792), NONE);
+        due("image of the last", desk.one().image(A, A, 11), 11);
+        due("image of one more", desk.one().image(A, A, 12), NONE);
+        due("tutte", desk.one().tutte(A, 6, 0), 1);
+        due("common", desk.one().common(A, A), 63);
+        due("cover", desk.one().cover(A, A), 0);
     }
 }
