@@ -230,6 +230,7 @@ public final class BoundsOfTermsTest {
         Checks.prints(made + "c=sum a z; show c; d=sum z a; show d; e=sum z z; rank e; flats e;", "1 2\n1 2\n0\n{}\n");
         Checks.prints(made + "a=sum a a; show a;", "1 2 0 0\n0 0 1 2\n");
         Checks.prints("a=uniform 0 6; b=uniform 6 6; c=sum a b; bases c; rank c;", "{6 7 8 9 10 11}\n6\n");
+        Checks.prints("a=uniform 6 6; b=sum a a; bases b; circuits b; rank b;", "{0 1 2 3 4 5 6 7 8 9 10 11}\n12\n");
         Checks.prints("a=matrix 2 0 { }; b=matrix 2 12 { }; c=sum a b; rank c; d=sum b a; flats d;",
             "0\n{0 1 2 3 4 5 6 7 8 9 10 11}\n");
     }
@@ -357,6 +358,12 @@ public final class BoundsOfTermsTest {
             Checks.due("sign of one element", desk.one().sign(m, 1), 2);
         }
         Checks.prints("a=uniform 0 0; b=uniform 0 12; c=graph 3 { 1 1 }; chirotope a; chirotope b; chirotope c;", "+\n+\n+\n");
+        // {1 2} has -1 in what it is taken from.
+        desk = Checks.after("a=matrix Q 4 { 1 0 1 -1, 0 1 1 0 }; b=contract a { 1 2 }; c=delete b { 0 1 }; d=contract a { 0 1 2 3 };");
+        Checks.due("sign of {1 2}", desk.one().sign(A, 6), -1);
+        for (int m = B; m <= D; m++) {
+            Checks.due("sign of the empty set of " + m, desk.one().sign(m, 0), 1);
+        }
     }
 
     private static void tuttePolynomials() {
@@ -571,6 +578,9 @@ public final class BoundsOfTermsTest {
             0, 1, 3, 7, 5, 6, 4, 8, 2);
         images(PRISM, "matrix Q 9 { 2 -3 -1 6 -3 -3 -1 9 2, 3 1 -3 -2 -3 1 -1 -5 2, 1 4 -2 3 4 0 -1 2 1 }",
             0, 1, 2, 3, 8, 5, 6, 7, 4);
+        // 0 is like 2 there, and not like 0 or 1, though only far more elements tell.
+        images(PRISM, "matrix Q 9 { -3 2 9 2 -3 6 -1 -3 -1, 1 3 -5 2 -3 -2 -1 1 -3, 0 1 2 1 4 3 -1 4 -2 }",
+            2, 3, 6, 5, 7, 1, 8, 0, 4);
         images("uniform 12 12", "uniform 12 12", 0, 1, 2, 3, 4, 5, 6, 7, 8, 9, 10, 11);
         images("matrix Q 12 { 0 0 0 0 0 0 0 0 0 0 0 1 }", "matrix Q 12 { 1 0 0 0 0 0 0 0 0 0 0 0 }",
             11, 0, 1, 2, 3, 4, 5, 6, 7, 8, 9, 10);
