@@ -548,6 +548,10 @@ public final class BoundsOfTermsTest {
         minor(host, "uniform 0 1", 0, 30);
         // {0 3} comes before {1 2} when both will do.
         minor("matrix Q 4 { 1 0 0 1, 0 1 1 0 }", "uniform 1 2", 0, 6);
+        // Eleven alike and one not: a search that gives images before it looks at ranks would not end here.
+        String loops = "matrix Q 12 { 0 1 0 0 0 0 0 0 0 0 0 0 }";
+        minor(loops, "uniform 0 10", 0, 2 + 2048);
+        minor(loops + "; a=dual a", "uniform 10 10", 0, 2 + 2048);
     }
 
     private static void witnessContracted() {

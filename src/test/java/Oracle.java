@@ -418,8 +418,11 @@ final class Oracle {
         return null;
     }
 
-    // Saves the search for images where there can be none.
+    // Saves the search for images where there can be none: among many loops it would take hours.
     private static boolean asManyBases(Mat m, Mat p, int kept, int c) {
+        if (m.rank(kept | c) - m.rank(c) != p.r()) {
+            return false;
+        }
         int more = 0;
         for (int set = 0; set <= p.all(); set++) {
             more += p.rank(set) == p.r() && Integer.bitCount(set) == p.r() ? 1 : 0;
